@@ -495,7 +495,7 @@ public final class TurtleWorld {
      */
     private static final class Heap {
         private static final int CELLS_FIRST = 16384;
-        private static final int CELLS_MOST = 300000;
+        private static final int CELLS_MOST = 340000;
         private static final int WORD_MARK = 128;
         private static final int LIST_MARK = 0x40000000;
         private static final int COUNT_BITS = 13;
