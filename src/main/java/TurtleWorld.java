@@ -631,12 +631,14 @@ public final class TurtleWorld {
         }
 
         int member(int list, int k) {
-            return k >= 0 && k < count(list) ? cells[(list >> 2) + 1 + k] : NOTHING;
+            int at = (list >> 2) + 1 + k;
+            return k >= 0 && k < count(list) && at < cells.length ? cells[at] : NOTHING;
         }
 
         void putMember(int list, int k, int v) {
-            if (k >= 0 && k < count(list)) {
-                cells[(list >> 2) + 1 + k] = v;
+            int at = (list >> 2) + 1 + k;
+            if (k >= 0 && k < count(list) && at < cells.length) {
+                cells[at] = v;
             }
         }
 
