@@ -11,6 +11,7 @@ public final class LineTest {
         long20000();
         outKeepsTheLatest();
         manyLines();
+        manyTimesBack();
         Check.finish();
     }
 
@@ -273,5 +274,16 @@ public final class LineTest {
         Check.line(world, "print equalp :g0 :g39 print equalp text \"q0 text \"q29 print first :g7 print count text \"q3");
         world.run(Check.ALL);
         Check.due("OUT", Check.out(world), "x\n".repeat(40) + "true\ntrue\na84\n140\n");
+    }
+
+    /** What a line made must be gone when it is gone back in. */
+    private static void manyTimesBack() {
+        TurtleWorld world = Check.ran("", "repeat 3000 [make \"m word \"a \"b] make \"n word :m \"c");
+        for (int i = 0; i < 100; i++) {
+            Check.due("go " + i, world.go(9001), true);
+            Check.due("its error", world.look(1), 0);
+            Check.due("what it made", world.look(5), 6003);
+        }
+        Check.due("m", Check.value(world, 0), "ab");
     }
 }

@@ -75,15 +75,15 @@ public final class TurtlesTest {
         Check.due("y and the greatest", world.side(0, 1, Integer.MAX_VALUE), -1);
         Check.due("x and the least", world.side(0, 0, Integer.MIN_VALUE), 1);
         Check.due("x and the greatest", world.side(0, 0, Integer.MAX_VALUE), -1);
-        // 978122 r / 2 is just above 847078.5, and 1694157 = floor(978122 r).
-        world = Check.ran("", "rt 30 repeat 978 [fd 1000] fd 122");
-        BigInteger q = BigInteger.valueOf(978122);
-        long floor = q.multiply(q).multiply(BigInteger.valueOf(3)).sqrt().longValue() / 2;
-        Check.due("y and its floor", world.side(0, 1, (int) floor), 1);
-        Check.due("y and its ceiling", world.side(0, 1, (int) floor + 1), -1);
-        world = Check.ran("", "rt 210 repeat 978 [fd 1000] fd 122");
-        Check.due("-y and its floor", world.side(0, 1, (int) -floor - 1), 1);
-        Check.due("-y and its ceiling", world.side(0, 1, (int) -floor), -1);
+        // 826806 r is above 1432070 by less than 3 millionths.
+        BigInteger q = BigInteger.valueOf(826806);
+        Check.due("floor(826806 r)", q.multiply(q).multiply(BigInteger.valueOf(3)).sqrt().longValue(), 1432070);
+        world = Check.ran("", "rt 30 repeat 826 [fd 1000] fd 806");
+        Check.due("y and its floor", world.side(0, 1, 716035), 1);
+        Check.due("y and its ceiling", world.side(0, 1, 716036), -1);
+        world = Check.ran("", "rt 210 repeat 826 [fd 1000] fd 806");
+        Check.due("-y and its floor", world.side(0, 1, -716036), 1);
+        Check.due("-y and its ceiling", world.side(0, 1, -716035), -1);
     }
 
     private static void noSuch() {
