@@ -13,8 +13,14 @@ final class Check {
         asked++;
         if (got != want) {
             wrong++;
-            System.out.println(what + " answered " + got + ", due is " + want);
+            System.out.println(brief(what) + " answered " + got + ", due is " + want);
         }
+    }
+
+    /** A long text without its middle. */
+    private static String brief(String text) {
+        int length = text.length();
+        return length <= 300 ? text : text.substring(0, 150) + " .. " + text.substring(length - 100);
     }
 
     static void due(String what, boolean got, boolean want) {
@@ -25,7 +31,7 @@ final class Check {
         asked++;
         if (!got.equals(want)) {
             wrong++;
-            System.out.println(what + " answered '" + got + "', due is '" + want + "'");
+            System.out.println(brief(what) + " answered '" + brief(got) + "', due is '" + brief(want) + "'");
         }
     }
 
@@ -117,5 +123,56 @@ final class Check {
 
     static void fails(String text, int error, int done) {
         fails("", text, error, done);
+    }
+
+    /** The INSTRUCTION with this number ends the line by this ERROR, and does nothing else. */
+    static void refuses(String procedures, String text, int error, int number) {
+        TurtleWorld world = world(procedures);
+        due("line '" + text + "'", line(world, text) >= 0, true);
+        due("the INSTRUCTIONS ahead in '" + text + "'", world.run(number - 1), number - 1);
+        due("look(0) ahead of the ERROR of '" + text + "', error " + world.look(1), world.look(0), 1);
+        String before = all(world);
+        due("the INSTRUCTION with the ERROR of '" + text + "'", world.run(ALL), 1);
+        due("look(0) behind '" + text + "'", world.look(0), 3);
+        due("the ERROR of '" + text + "'", world.look(1), error);
+        due("all else behind '" + text + "'", all(world), before);
+    }
+
+    static void refuses(String text, int error, int number) {
+        refuses("", text, error, number);
+    }
+
+    /** All that a line can change, but how the line itself stands. */
+    static String all(TurtleWorld world) {
+        StringBuilder text = new StringBuilder();
+        for (int what = 5; what <= 12; what++) {
+            text.append(world.look(what)).append(' ');
+        }
+        text.append(world.sum()).append(' ').append(out(world));
+        for (int k = 0; k < world.look(8); k++) {
+            text.append(name(world, k)).append('=').append(value(world, k)).append(' ');
+        }
+        for (int k = 0; k < world.look(9); k++) {
+            for (int what = 0; world.procedure(k, what) != TurtleWorld.NONE; what++) {
+                text.append(world.procedure(k, what)).append(' ');
+            }
+        }
+        return text.toString();
+    }
+
+    static String name(TurtleWorld world, int k) {
+        StringBuilder text = new StringBuilder();
+        for (int i = 0; world.name(k, i) != TurtleWorld.NONE; i++) {
+            text.append((char) world.name(k, i));
+        }
+        return text.toString();
+    }
+
+    /** The FAULT of what has just been read: the call's answer, its place, its kind, and an empty tape. */
+    static void fault(TurtleWorld world, int answer, String text, int kind, int place) {
+        due("reading '" + text + "'", answer, -kind);
+        due("the place in '" + text + "'", world.fault(0), place);
+        due("the kind in '" + text + "'", world.fault(1), kind);
+        due("the tape behind '" + text + "'", world.look(11), 0);
     }
 }
