@@ -39,6 +39,8 @@ public final class LineEdgesTest {
         goesTo();
         goesBackIntoLevels();
         goesBackInWhatWasCaught();
+        goesFromAnywhere();
+        goesBackInOut();
         goesOrNot();
         stopsAnywhere();
         theEndLeavesNoLevel();
@@ -216,7 +218,13 @@ public final class LineEdgesTest {
         Check.prints("show 7 = 7 show 7 < 7 show 7 > 7 show 7 + 2 show 7 - 2 show 7 * 2 show 7 / 2", "true\nfalse\nfalse\n9\n5\n14\n3\n");
         Check.prints("show 3 < 4 show 4 < 3 show 3 > 4 show 4 > 3 show [a] = [a] show \"a = [a]", "true\nfalse\nfalse\ntrue\ntrue\nfalse\n");
         Check.prints("show 9 - 4 - 3 show 9 - 4 + 3 show 24 / 4 / 3 show 24 / 4 * 3 show 8 * 9 / 10", "2\n8\n2\n18\n7\n");
-        Check.prints("show 1 < 2 = \"true show 5 = 5 = \"true", "true\ntrue\n");
+        Check.prints("show 1 < 2 = \"true show 5 = 5 = \"true show 2 > 1 = \"true", "true\ntrue\ntrue\n");
+        Check.fails("show 1 = 2 < 3", 3, 2);
+        Check.fails("show 1 = 2 > 3", 3, 2);
+        Check.fails("show 1 < 2 > 3", 3, 2);
+        Check.prints("show 1 < 2 + 3 show 9 > 2 + 3 show 9 > 10 - 3 show 1 < 2 * 3 show 5 = 10 / 2 show 7 = 10 - 3", "true\n".repeat(6));
+        Check.prints("show (1 = 1) show (1 < 2) show (1 + 2 = 3)", "true\n".repeat(3));
+        Check.prints("to f :a :b output list :a :b end", "show f 1 = 1 2 < 1 show list 1 = 1 2 + 3 * 4", "[true false]\n[true 14]\n");
         // A weaker one ends the right side, a stronger one belongs to it.
         Check.prints("show 1 + 2 * 3 show 2 * 3 + 1 show 1 + 2 = 3 show 3 = 1 + 2 show 2 + 3 * 4 - 5 > 8", "7\n7\ntrue\ntrue\ntrue\n");
         Check.prints("show 10 - 2 * 3 - 1 show 1 = 2 + 3 * 4 show 2 * 3 * 4 + 5 * 6", "3\nfalse\n54\n");
@@ -639,6 +647,58 @@ public final class LineEdgesTest {
     private static void goesBackInWhatWasCaught() {
         goesAnywhereIn("", "catch \"error [zz] show error catch \"error [show 1 / 0] show error show error");
         goesAnywhereIn("", "catch \"error [make \"a list 1 [2] show :b] show error show map [1] [list ? ?]");
+    }
+
+    /** From within CALLS, asks and maps, without an end between: nothing of them may be left. */
+    private static void goesFromAnywhere() {
+        String text = "show namep \"a f 5 show map [1 2] [sum ? ask ? [tell 7 f2 ?]] show namep \"c";
+        TurtleWorld world = Check.world("to f :a local \"b make \"b :a make \"c list :a :b g end to g pu pd end to f2 :a output :a + who end");
+        Check.line(world, text);
+        java.util.ArrayList<String> stands = new java.util.ArrayList<>();
+        stands.add(stand(world));
+        while (world.run(1) == 1) {
+            stands.add(stand(world));
+        }
+        Check.due("no ERROR", world.look(1), 0);
+        Check.due("OUT", Check.out(world), "false\n[9 11]\ntrue\n");
+        int done = stands.size() - 1;
+        for (int from = 0; from <= done; from++) {
+            for (int to = 0; to <= from; to++) {
+                world.go(0);
+                world.run(from);
+                Check.due("go(" + to + ") from " + from, world.go(to), true);
+                Check.due("all behind go(" + to + ") from " + from, stand(world), stands.get(to));
+            }
+        }
+        // What the LINE brought is no more there behind go(0), nor is a place for it.
+        world.go(0);
+        Check.due("GLOBAL NAMES", world.look(8), 0);
+        Check.due("name(0, 0)", world.name(0, 0), -1);
+        Check.due("value(0, 0)", world.value(0, 0), -1);
+        Check.due("call(0, 0)", world.call(0, 0), -1);
+        world = Check.world("");
+        Check.line(world, "define \"p [[] []] pu");
+        world.run(1);
+        world.go(0);
+        Check.due("procedures", world.look(9), 0);
+        Check.due("procedure(0, 0)", world.procedure(0, 0), -1);
+    }
+
+    /** OUT is as it was, also where it was full and signs have been dropped since. */
+    private static void goesBackInOut() {
+        TurtleWorld world = Check.ran("", "repeat 230 [type \"abcdefghij]");
+        String before = Check.out(world);
+        Check.due("signs", before.length(), 2000);
+        Check.line(world, "type \"123x repeat 300 [type \"ABCDEFGHIJK]");
+        world.run(1);
+        String first = Check.out(world);
+        Check.due("the latest ones", first, before.substring(4) + "123x");
+        world.run(Check.ALL);
+        Check.due("others", Check.out(world), "ABCDEFGHIJK".repeat(300).substring(1300));
+        world.go(1);
+        Check.due("OUT behind go(1)", Check.out(world), first);
+        world.go(0);
+        Check.due("OUT behind go(0)", Check.out(world), before);
     }
 
     private static void goesOrNot() {

@@ -95,6 +95,17 @@ public final class TextEdgesTest {
         world.feed(0x70752070, 0x64207075, 0x20706420, 0x5d5d5d5d, 0x5d5d5d5d);
         Check.due("end(11)", world.end(11), true);
         Check.due("its first bytes alone", world.line(), 4);
+        world.stop();
+        // What was cut off is not read, also where a token would go on with it.
+        world.feed(0x73686f77, 0x20313233, 0x34353637, 0x38393031, 0x32333435);
+        Check.due("end(7)", world.end(7), true);
+        Check.due("show 12", world.line(), 2);
+        world.run(1);
+        Check.due("OUT", Check.out(world), "12\n");
+        world.feed(0x2d352020, 0x20202020, 0x20202020, 0x20202020, 0x20202020);
+        Check.due("end(1)", world.end(1), true);
+        Check.due("a - alone", world.line(), 1);
+        Check.due("is no NUMBER", world.look(1), 4);
     }
 
     private static void whatReadsEmptiesTheTape() {
@@ -152,6 +163,7 @@ public final class TextEdgesTest {
                 defineFault("to p" + (char) b + " end", 1, 4);
             } else {
                 members(text, "()+-*/=<>".indexOf(b) >= 0 ? 2 : 1);
+                members("" + (char) b, 1);
             }
         }
         Check.prints("show [!~ #$%&' .,_ @\\^`{|}]", "[!~ #$%&' .,_ @\\^`{|}]\n");
@@ -425,6 +437,11 @@ public final class TextEdgesTest {
         TurtleWorld other = Check.world(manyProcedures(39));
         Check.due("one new one, told twice", Check.define(other, "to q end to q pu end"), 2);
         Check.due("is the fortieth", other.look(9), 40);
+        // What a FAULT has left behind is no procedure.
+        TurtleWorld again = Check.world(manyProcedures(38));
+        Check.due("two with a FAULT", Check.define(again, "to z end to z end to q end to"), -8);
+        Check.fault(again, Check.define(again, "to x end to y end to q end"), "three new ones", 11, 21);
+        Check.due("none came", again.look(9), 38);
         TurtleWorld third = Check.world(manyProcedures(39));
         Check.fault(third, Check.define(third, "to q end to r end"), "two new ones", 11, 12);
         Check.due("of which none came", third.look(9), 39);

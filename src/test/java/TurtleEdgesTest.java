@@ -238,7 +238,7 @@ public final class TurtleEdgesTest {
         for (int n : edges) {
             for (int m : edges) {
                 String text = "place " + n + " " + m;
-                place(text, Check.ran("", "seth 30 fd 7 " + text), 0, 2 * n, 0, 2 * m, 0);
+                place(text, Check.ran("", "seth 30 fd 7 seth 60 fd 9 " + text), 0, 2 * n, 0, 2 * m, 0);
             }
         }
         for (String n : new String[] {"30001", "-30001", "1000000000", "\"a", "[0]"}) {
@@ -249,7 +249,7 @@ public final class TurtleEdgesTest {
         Check.due("home draws no LINE", drawn(Check.ran("", "place 5 5 home")), "");
         TurtleWorld world = Check.ran("", "rt 90 setpen 3 place 5 5");
         Check.due("place leaves the HEADING", world.turtle(0, 0), 90);
-        world = Check.ran("", "setpen 3 pu rt 30 fd 7 home");
+        world = Check.ran("", "setpen 3 pu rt 30 fd 7 rt 30 fd 9 home");
         place("home", world, 0, 0, 0, 0, 0);
         Check.due("home: HEADING", world.turtle(0, 0), 0);
         Check.due("home leaves the PEN", world.turtle(0, 1), 3);

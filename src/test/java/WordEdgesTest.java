@@ -42,6 +42,8 @@ public final class WordEdgesTest {
         outIsKept();
         nameAnswers();
         valueAnswers();
+        valuesStay();
+        manyValuesStay();
         Check.finish();
     }
 
@@ -202,6 +204,15 @@ public final class WordEdgesTest {
             gives("equalp " + pair[0] + " " + pair[1], "false");
             gives("equalp " + pair[1] + " " + pair[0], "false");
             gives("memberp " + pair[0] + " fput \"zz fput " + pair[1] + " []", "false");
+        }
+        // A LIST that has been made is EQUAL to one that has been read.
+        String[][] made = {{"map [] []", "[]"}, {"map [a [b]] [?]", "[a [b]]"}, {"fput [a] [b]", "[[a] b]"}, {"lput [a] [b]", "[b [a]]"},
+            {"sentence [a] \"bc", "[a bc]"}, {"sentence \"bc [a [d]]", "[bc a [d]]"}, {"list [a] 5", "[[a] 5]"}, {"butfirst [abc d]", "[d]"},
+            {"butlast [[a b] d]", "[[a b]]"}, {"butfirst [a]", "[]"}, {"reverse [[a b] c 5]", "[5 c [a b]]"}, {"reverse []", "[]"}};
+        for (String[] pair : made) {
+            gives("equalp " + pair[0] + " " + pair[1], "true");
+            gives("equalp " + pair[1] + " " + pair[0], "true");
+            gives("equalp fput 1 " + pair[0] + " fput 1 " + pair[1], "true");
         }
         gives("memberp 1 []", "false");
         gives("memberp [] []", "false");
@@ -730,5 +741,49 @@ public final class WordEdgesTest {
         String numbers = "-1000000000 ".repeat(299).trim();
         Check.due("a long one", Check.value(Check.ran("", "make \"x [" + numbers + "]"), 0), "[" + numbers + "]");
         Check.due("and OUT stays", Check.out(Check.ran("", "make \"x 5 type \"a")), "a");
+    }
+
+    /** VALUES that have parts in common are as they were in the LINES that follow. */
+    private static void valuesStay() {
+        TurtleWorld world = Check.world("to f :x show :x end");
+        Check.line(world, "make \"l [abc [de fg] \"hi :jk 5] make \"w first :l make \"m item 2 :l make \"v last :m make \"q item 3 :l "
+                + "make \"t run fput item 3 :l [] make \"n list :l :m define \"g list [a] :l define \"h list :m :m make :w :w");
+        world.run(Check.ALL);
+        Check.due("no ERROR", world.look(1), 0);
+        String[] due = {"[abc [de fg] \"hi :jk 5]", "abc", "[de fg]", "fg", "\"hi", "hi", "[[abc [de fg] \"hi :jk 5] [de fg]]", "abc"};
+        for (int line = 0; line < 6; line++) {
+            for (int k = 0; k < due.length; k++) {
+                Check.due("VALUE " + k + " behind " + line + " lines", Check.value(world, k), due[k]);
+            }
+            Check.due("the NAME abc", Check.name(world, 7), "abc");
+            Check.line(world, "f equalp :w first :l f equalp :m item 2 :l f equalp :v last item 2 :l f equalp :l text \"g f equalp :m text \"h "
+                    + "f equalp :n list :l :m f arity \"h f run fput :q []");
+            world.run(Check.ALL);
+            Check.due("no ERROR", world.look(1), 0);
+        }
+        Check.due("OUT", Check.out(world), ("true\n".repeat(6) + "2\nhi\n").repeat(6));
+    }
+
+    /** As much as a first LINE can leave: what is read behind it must not push it out. */
+    private static void manyValuesStay() {
+        StringBuilder numbers = new StringBuilder();
+        for (int i = 10; i < 69; i++) {
+            numbers.append(i).append(' ');
+        }
+        TurtleWorld world = Check.world("");
+        Check.line(world, "make \"l [" + numbers + "] repeat 60 [make word \"n repcount map :l [word \"abc ?]]");
+        world.run(Check.ALL);
+        Check.due("no ERROR", world.look(1), 0);
+        Check.due("GLOBAL NAMES", world.look(8), 61);
+        String due = "[abc" + numbers.toString().trim().replace(" ", " abc") + "]";
+        for (int line = 0; line < 4; line++) {
+            for (int k = 1; k < 61; k++) {
+                Check.due("VALUE " + k + " behind " + line + " lines", Check.value(world, k), due);
+                Check.due("NAME " + k + " behind " + line + " lines", Check.name(world, k), "n" + k);
+            }
+            Check.line(world, "repeat 40 [make \"l map :l [word \"x ?] make \"l map :l [? = ?]] pu");
+            world.run(Check.ALL);
+            Check.due("an ERROR of too much or too long", world.look(1) == 8 || world.look(1) == 13 || world.look(1) == 0, true);
+        }
     }
 }
