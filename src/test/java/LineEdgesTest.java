@@ -284,13 +284,13 @@ public final class LineEdgesTest {
         Check.prints("to f :a run [show :a make \"a 2] show :a end", "f 5", "5\n2\n");
     }
 
-    private static final String[] RUNNING = {"run []", "if \"true []", "ifelse \"true [] zz", "repeat 1 []", "while [\"false] []", "foreach [1] []",
+    // Each opens one LEVEL.
+    private static final String[] RUNNING = {"run []", "if \"true []", "ifelse \"true [] []", "repeat 1 []", "while [\"false] []", "foreach [1] []",
         "ask 0 []", "catch \"error []", "r"};
 
     /** The 150th LEVEL can be had, the 151st not. */
     private static void levelsOfEachWord() {
-        for (String word : RUNNING) {
-            String text = word.replace("zz", "[]");
+        for (String text : RUNNING) {
             String q = DEEP + "to q " + text + " print 1 end";
             Check.prints(q, "p 145", "1\n");
             Check.refuses(q, "p 146", 6, 4 * 146 + 5);
@@ -810,12 +810,10 @@ public final class LineEdgesTest {
         Check.line(world, "make \"a list 1 2 tell 6 catch \"error [zz] type \"abc make \"b random 5 f show (sum 1 heading)");
         world.run(8);
         Check.tape(world, "pu");
-        int[] due = {1, 0, 8, 2, 0, 3, 1, 6, 2, 2, 3, 2, 270369, 1};
-        due[12] = world.look(12);
+        int[] due = {1, 0, 8, 2, 0, 3, 1, 6, 2, 2, 3, 2, nextSeed(3), 1};
         for (int what = 0; what < due.length; what++) {
             Check.due("look(" + what + ")", world.look(what), due[what]);
         }
-        Check.due("the SEED has changed", world.look(12) != 3, true);
         world.run(1);
         Check.due("WAITING: show ( sum", world.look(4), 3);
         Check.due("LEVELS", world.look(3), 1);
@@ -830,14 +828,21 @@ public final class LineEdgesTest {
         Check.due("of the next LINE: INSTRUCTIONS", world.look(2), 0);
     }
 
+    private static int nextSeed(int seed) {
+        int s = seed;
+        s ^= s << 13;
+        s ^= s >>> 17;
+        s ^= s << 5;
+        return s;
+    }
+
     private static void callAnswers() {
         TurtleWorld world = Check.world("to f :a :b local \"c run [g] end to g local \"a repeat 2 [h 1] end to h :x pu end");
         Check.due("no CALL", world.call(0, 0), -1);
         Check.line(world, "f 5 6");
         Check.due("none is open", world.call(0, 1), -1);
         world.run(1);
-        int[][] one = {{0, 2, 2}};
-        calls(world, one);
+        calls(world, new int[][] {{0, 2, 2}});
         world.run(1);
         calls(world, new int[][] {{0, 3, 2}});
         world.run(4);
